@@ -1648,7 +1648,10 @@ public final class GlassWatch {
             squares.count = 0;
             for (int set = 0; set < sets(); set++) {
                 if ((fitting >> set & 1) != 0) {
-                    squares.add(reckoner.sailFor(asTold(set), n).inSquare(), 0, 0, 0);
+                    Keeping trial = asTold(set);
+                    reckoner.reckon(trial);
+                    reckoner.sail(trial, 0, n);
+                    squares.add(reckoner.ship.inSquare(), 0, 0, 0);
                 }
             }
             int most = 0;
