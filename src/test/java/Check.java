@@ -11,6 +11,11 @@ final class Check {
         promise = "promise " + number + ": ";
     }
 
+    /** What follows looks at one sentence of a promise, or of a term that it uses. */
+    void sentence(int number, String words) {
+        promise = "promise " + number + ", '" + words + "': ";
+    }
+
     void due(String call, long got, long want) {
         looked++;
         if (got != want) {
@@ -27,6 +32,31 @@ final class Check {
     void refused(String call, GlassWatch x, long got, long want, int trouble) {
         due(call, got, want);
         due(call + ", trouble", x.trouble(), trouble);
+    }
+
+    /** The fault of a text at the place that ^ marks; whatever stands behind it is no matter, but at the end. */
+    void fault(int number, String marked) {
+        int place = marked.indexOf('^');
+        String text = marked.replace("^", "");
+        faultAt(number, place, text);
+        if (place < text.length()) {
+            faultAt(number, place, text + ";voyage from 200 $");
+            faultAt(number, place, text + " ;$");
+        }
+    }
+
+    void faultAt(int number, int place, String text) {
+        GlassWatch x = new GlassWatch();
+        refused(text, x, load(x, text), -1, 4);
+        due("fault() of " + text, x.fault(), number);
+        due("where() of " + text, x.where(), place);
+    }
+
+    /** A text without a fault. */
+    void good(String text) {
+        GlassWatch x = new GlassWatch();
+        due(text, load(x, text) > 0, true);
+        due("fault() of " + text, x.fault(), 0);
     }
 
     void throwsNone(String call, GlassWatch x, int i) {

@@ -98,31 +98,14 @@ public final class VoyageTest {
         CHECK.due("where() of none", x.where(), -1);
     }
 
-    /** The fault of a text at the place that ^ marks; whatever stands behind it is no matter, but at the end. */
     private static void fault(int number, String marked) {
-        int place = marked.indexOf('^');
-        String text = marked.replace("^", "");
-        faultAt(number, place, text);
-        if (place < text.length()) {
-            faultAt(number, place, text + ";voyage from 200 $");
-            faultAt(number, place, text + " ;$");
-        }
-    }
-
-    private static void faultAt(int number, int place, String text) {
-        GlassWatch x = new GlassWatch();
-        CHECK.refused(text, x, Check.load(x, text), -1, 4);
         CHECK.promise(4);
-        CHECK.due("fault() of " + text, x.fault(), number);
-        CHECK.promise(5);
-        CHECK.due("where() of " + text, x.where(), place);
+        CHECK.fault(number, marked);
     }
 
     private static void good(String text) {
         CHECK.promise(3);
-        GlassWatch x = new GlassWatch();
-        CHECK.due(text, Check.load(x, text) > 0, true);
-        CHECK.due("fault() of " + text, x.fault(), 0);
+        CHECK.good(text);
     }
 
     private static void forms() {
