@@ -121,7 +121,9 @@ public final class TapeEdgesTest {
         CHECK.due("image() begins anew", x.image(), 0);
         CHECK.due("there is room for three", x.image() + x.image(), 3);
         CHECK.sentence(3, "of an earlier VOYAGE nothing is left");
-        String[] texts = {Texts.FULL, Texts.WEST, READY, Texts.FOUR, Texts.WEST, Texts.FULL, Texts.FULL, READY, READY};
+        String stealing = Texts.one("sly", 20, 9, 1, ";watch b f north speed 1".repeat(11));
+        String[] texts = {Texts.FULL, Texts.WEST, READY, Texts.FOUR, Texts.WEST, Texts.FULL, Texts.FULL, stealing, stealing,
+            READY, READY};
         GlassWatch y = new GlassWatch();
         for (String text : texts) {
             Check.load(y, text);

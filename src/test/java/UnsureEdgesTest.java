@@ -125,6 +125,25 @@ public final class UnsureEdgesTest {
         CHECK.due("judge() behind acts", x.judge(), -2);
     }
 
+    private static void askedInAnyOrder() {
+        CHECK.sentence(35, "whatever was asked ahead");
+        GlassWatch x = Check.loaded(FOUR + ";found 1 at 50 67");
+        CHECK.due("canBe(4)", x.canBe(4), 16);
+        CHECK.due("fixLeaves()", x.fixLeaves(), 1);
+        CHECK.due("fix()", x.fix(), 4);
+        GlassWatch still = Check.loaded(FOUR.replace("speed 7", "speed 0"));
+        CHECK.due("canBe(4) lying still", still.canBe(4), 1);
+        CHECK.due("fix() lying still", still.fix(), 0);
+        CHECK.due("fixLeaves() lying still", still.fixLeaves(), 16);
+        GlassWatch less = Check.loaded(FOUR.replace("speed 7", "speed 0").replace(";unsure d 16", ""));
+        CHECK.due("canBe(4) lying still", less.canBe(4), 1);
+        CHECK.due("fixLeaves() lying still", less.fixLeaves(), 8);
+        CHECK.sentence(22, "whatever was asked ahead");
+        CHECK.due("canBe(3)", x.canBe(3), 8);
+        CHECK.due("canBe(0)", x.canBe(0), 1);
+        CHECK.due("canBe(4)", x.canBe(4), 16);
+    }
+
     private static void judge() {
         CHECK.sentence(36, "The first found one, as told, that isn't so; -2");
         CHECK.due("none is found", Check.loaded(FOUR).judge(), -2);
@@ -160,6 +179,7 @@ public final class UnsureEdgesTest {
         oneOfThem();
         noneOfThem();
         likes();
+        askedInAnyOrder();
         judge();
         refusals();
         CHECK.end();
