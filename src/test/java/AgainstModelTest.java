@@ -1,3 +1,8 @@
+import java.nio.ByteBuffer;
+import java.util.ArrayList;
+import java.util.Arrays;
+import java.util.Collections;
+import java.util.List;
 import java.util.NoSuchElementException;
 import java.util.Random;
 
@@ -52,11 +57,33 @@ public final class AgainstModelTest {
         for (int i = 0, m = below(Math.min(boys, 4) + 1); i < m; i++) {
             t.append(";unsure ").append(NAMES[(shift + i) % NAMES.length]).append(' ').append(below(21));
         }
+        boolean onItsWay = below(2) == 0;
+        Model way = new Model();
+        if (onItsWay) tell(way, t.toString());
         for (int i = below(3), n = below(2); i > 0 && n <= watches; i--, n += between(1, 3)) {
-            t.append(";found ").append(n).append(" at ").append(clip(east + between(-2, 2))).append(' ')
-                .append(clip(north + between(-2, 2)));
+            int off = onItsWay ? 0 : 2;
+            int e = onItsWay && way.size(4) > 0 ? way.square(n) / 1000 - 300 : east;
+            int o = onItsWay && way.size(4) > 0 ? way.square(n) % 1000 - 300 : north;
+            t.append(";found ").append(n).append(" at ").append(clip(e + between(-off, off))).append(' ')
+                .append(clip(o + between(-off, off)));
         }
-        return t.toString();
+        return below(2) == 0 ? t.toString() : shuffled(t.toString(), 1 + boys + officers);
+    }
+
+    /** The same lines, those behind the first ones in any order: a noon may be told ahead of its watches. */
+    private String shuffled(String text, int first) {
+        List<String> lines = new ArrayList<>(Arrays.asList(text.split(";")));
+        Collections.shuffle(lines.subList(first, lines.size()), random);
+        return String.join(";", lines);
+    }
+
+    private static void tell(Model m, String text) {
+        byte[] bytes = Arrays.copyOf(text.getBytes(), (text.length() + 19) / 20 * 20);
+        for (int i = 0; i + 20 <= bytes.length; i += 20) {
+            ByteBuffer five = ByteBuffer.wrap(bytes, i, 20);
+            m.feed(five.getInt(), five.getInt(), five.getInt(), five.getInt(), five.getInt());
+        }
+        m.voyage(text.length());
     }
 
     private static int clip(int v) { return Math.max(0, Math.min(199, v)); }
