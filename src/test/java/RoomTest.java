@@ -1,3 +1,4 @@
+import java.lang.management.ManagementFactory;
 import java.lang.reflect.Array;
 import java.lang.reflect.Field;
 import java.lang.reflect.Modifier;
@@ -6,7 +7,7 @@ import java.util.Deque;
 import java.util.IdentityHashMap;
 import java.util.Map;
 
-/** What one object holds: few objects and elements, and no more of them after 512 calls. */
+/** What one object holds: few objects and elements, no more after many calls; and no call makes one and drops it. */
 public final class RoomTest {
     private static final Check CHECK = new Check();
     private static final int MOST_OBJECTS = 120;
@@ -64,6 +65,40 @@ public final class RoomTest {
         Check.load(x, "x");
     }
 
+    /** Every call but led, whose exception is an object, with numbers that are answered and that are refused. */
+    private static long allCalls(GlassWatch x, int i, boolean p) {
+        long sum = x.fault() + x.where() + x.watch(i, 5) + x.boy(i, 3) + x.officer(i, 1) + x.glass(i, 1) + x.stolen(i);
+        sum += x.stolenBy(i) + x.thief() + x.lostWatch() + x.at(i, p) + x.thought(i, p) + x.error(i) + x.worst();
+        sum += x.square(i) + x.squareThought(i) + x.strikes() + x.feared() + x.canBe(i) + x.perils();
+        sum += x.attendFor(100 * i) + x.stolenIf(i) + x.lookFirst() + x.change() + x.strikesIf(i, 1) + x.relief(i);
+        sum += x.fits() + x.fitAt(i) + x.could() + x.surely() + x.fix() + x.fixLeaves() + x.judge();
+        sum += x.odds(i, 100, p) + x.mean(i, p) + x.dearest() + x.steals(i, p, p, p) + x.rests(i) + x.rest(i);
+        sum += x.idled(i, i) + x.squareBy(i, i) + x.wrecks(i, i) + x.attend(i) + x.relieve(i, 1) + x.image();
+        boolean steered = x.steer(i, 2) | x.undo() | x.back(i);
+        return sum + x.size(i) + x.trouble() + (steered ? 1 : 0) + x.feed(i, i, i, i, i) + x.voyage(i);
+    }
+
+    private static void makesNone() {
+        com.sun.management.ThreadMXBean counter = (com.sun.management.ThreadMXBean) ManagementFactory.getThreadMXBean();
+        GlassWatch x = Check.loaded(Texts.FULL);
+        GlassWatch none = new GlassWatch();
+        int[] text = {0x766f7961, 0x67652066, 0x726f6d20, 0x30203020, 0x636c6f75};
+        long sum = 0;
+        long made = 0;
+        // The machine loads what it needs in the first rounds, and counting itself takes some bytes.
+        for (int round = 0; round < 6; round++) {
+            long before = counter.getCurrentThreadAllocatedBytes();
+            for (int i = -1; i < 14; i++) {
+                sum += allCalls(x, i, i % 2 == 0) + allCalls(none, i, i % 2 == 0);
+                x.feed(text[0], text[1], text[2], text[3], text[4]);
+                sum += x.voyage(20);
+            }
+            made = counter.getCurrentThreadAllocatedBytes() - before;
+        }
+        CHECK.due("bytes that some 1,600 calls made, " + made, made < 200, true);
+        CHECK.due("they were answered", sum != 0, true);
+    }
+
     public static void main(String[] args) throws IllegalAccessException {
         GlassWatch x = new GlassWatch();
         RoomTest before = of(x);
@@ -73,6 +108,7 @@ public final class RoomTest {
         RoomTest after = of(x);
         CHECK.due("objects after many calls", after.objects, before.objects);
         CHECK.due("fields and elements after many calls", after.elements, before.elements);
+        makesNone();
         System.out.println("one object holds " + after.objects + " objects, " + after.elements + " fields and elements");
         CHECK.end();
     }
